@@ -1,9 +1,9 @@
 import java.util.Random;
 
-/** All promises: runs of 512 calls, the same ones every time, against a model that tries out everything. */
+/** All promises: runs of at most 512 calls, the same ones every time, against a model that tries out everything. */
 public final class AgainstModelTest {
-    private static final int RUNS = 160;
-    private static final int CALLS = 512;
+    private static final int RUNS = 800;
+    private static final int STEPS = 100;
     private static final Check CHECK = new Check("AgainstModelTest");
 
     private final Random random;
@@ -27,24 +27,30 @@ public final class AgainstModelTest {
     }
 
     private void run(int run) {
-        for (int call = 0; call < CALLS; call++) {
-            String where = "run " + run + ", call " + call + ": ";
-            if (call == CALLS / 8) {
-                fill();
+        for (int step = 0; step < STEPS; step++) {
+            String where = "run " + run + ", step " + step + ": ";
+            if (step == 0) {
+                grow(2 + random.nextInt(3));
+            } else if (step == STEPS / 3) {
+                grow(mostLeaves);
             }
             step(where, random.nextInt(50));
-            CHECK.due(where + "asked()", x.asked(), model.asked());
-            CHECK.due(where + "finding()", x.finding(), model.finding());
             CHECK.due(where + "digest()", x.digest(), model.digest());
+            if (step % 2 == 0) {
+                CHECK.due(where + "asked()", x.asked(), model.asked());
+            } else if (step % 4 == 1) {
+                CHECK.due(where + "finding()", x.finding(), model.finding());
+            }
         }
         whole("run " + run + ": ");
     }
 
-    /** Lets most of a run have leaves and rows to work with. */
-    private void fill() {
-        x.leaves(mostLeaves);
-        model.leaves(mostLeaves);
-        for (int j = 1; j < mostLeaves; j++) {
+    /** Lets a run have rows and trees to work with; the leaves come in two lots, so that trees differ in size. */
+    private void grow(int count) {
+        int n = Math.max(model.count(0), count);
+        x.leaves(n);
+        model.leaves(n);
+        for (int j = 1; j < n; j++) {
             x.row(j);
             model.row(j);
             for (int i = 0; i < j; i++) {
@@ -52,6 +58,11 @@ public final class AgainstModelTest {
                 x.lay(j, i, v);
                 model.lay(j, i, v);
             }
+        }
+        for (int t = 0; t < 2; t++) {
+            int way = random.nextInt(3);
+            x.make(t, way);
+            model.make(t, way);
         }
     }
 
@@ -71,7 +82,7 @@ public final class AgainstModelTest {
     }
 
     private int tree() {
-        return random.nextInt(12) == 0 ? pick(0, 3) : random.nextInt(2);
+        return random.nextInt(8) == 0 ? pick(0, 3) : random.nextInt(3);
     }
 
     private int node() {
@@ -95,7 +106,7 @@ public final class AgainstModelTest {
         int count = random.nextInt(5) == 0 ? pick(0, 10) : random.nextInt(4);
         switch (which) {
             case 0 -> {
-                int n = random.nextInt(4) == 0 ? pick(0, mostLeaves) : model.count(0) + random.nextInt(2);
+                int n = random.nextBoolean() ? pick(0, 10) : model.count(0) + random.nextInt(2);
                 n = n > mostLeaves && n < 11 ? mostLeaves : n;
                 CHECK.due(where + "leaves " + n, x.leaves(n), model.leaves(n));
             }
@@ -120,9 +131,9 @@ public final class AgainstModelTest {
         int t = tree();
         int node = node();
         int what = pick(0, 5);
-        boolean is = random.nextInt(3) == 0;
+        boolean is = random.nextInt(3) != 0;
         switch (which) {
-            case 14, 15, 16 -> CHECK.due(where + "make", x.make(t, pickWay()), model.make(t, wayPicked));
+            case 14 -> CHECK.due(where + "make", x.make(t, pickWay()), model.make(t, wayPicked));
             case 17 -> {
                 int dropped = random.nextInt(3) == 0 ? t : pick(2, 3);
                 CHECK.due(where + "drop", x.drop(dropped), model.drop(dropped));
@@ -130,7 +141,7 @@ public final class AgainstModelTest {
             case 18 -> CHECK.due(where + "told", x.told(t, node, what), model.told(t, node, what));
             case 19, 20 -> CHECK.due(where + "mark", x.mark(t, node, what), model.mark(t, node, what));
             case 21, 22 -> CHECK.due(where + "turn", x.turn(t, node), model.turn(t, node));
-            case 23 -> CHECK.due(where + "hold", x.hold(t, node, is), model.hold(t, node, is));
+            case 15, 16, 23 -> CHECK.due(where + "hold", x.hold(t, node, is), model.hold(t, node, is));
             case 24 -> CHECK.due(where + "order", x.order(t, node), model.order(t, node));
             default -> CHECK.due(where + "price", x.price(t), model.price(t));
         }
@@ -180,14 +191,20 @@ public final class AgainstModelTest {
 
     /** What the digest does not hold. */
     private void whole(String where) {
-        for (int k = 0; k < 20; k++) {
+        for (int k = 0; k <= 10; k++) {
             CHECK.due(where + "group", x.group(k), model.group(k));
             CHECK.due(where + "axis", x.axis(k), model.axis(k));
-            CHECK.due(where + "count", x.count(k), model.count(k));
-            CHECK.due(where + "findings", x.findings(k), model.findings(k));
-            for (int t = 0; t < 4; t++) {
-                CHECK.due(where + "turned", x.mark(t, k, 2), model.mark(t, k, 2));
+            for (int t = 0; t < 3; t++) {
                 CHECK.due(where + "order", x.order(t, k), model.order(t, k));
+            }
+        }
+        for (int k = 1; k <= 5; k++) {
+            CHECK.due(where + "count", x.count(k - 1), model.count(k - 1));
+            CHECK.due(where + "findings", x.findings(k), model.findings(k));
+        }
+        for (int t = 0; t < 3; t++) {
+            for (int join = model.count(0); join < 2 * model.count(0) - 1; join++) {
+                CHECK.due(where + "turned", x.mark(t, join, 2), model.mark(t, join, 2));
             }
         }
     }

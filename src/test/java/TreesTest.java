@@ -99,6 +99,15 @@ public final class TreesTest {
         join(x, 0, 4, 0, 2, 0);
         join(x, 0, 5, 4, 3, 0);
         join(x, 0, 6, 5, 1, 0);
+        LeafOrder grown = Samples.onLine(0, 3);
+        grown.make(0, 0);
+        CHECK.due("9: height of node 2", grown.told(0, 2, 3), 3);
+        grown.leaves(3);
+        grown.make(0, 0);
+        for (int what = 0; what <= 5; what++) {
+            int[] want = {1, -9, -9, 0, 1, 3};
+            CHECK.due("9: node 2 is a leaf now, told " + what, grown.told(0, 2, what), want[what]);
+        }
     }
 
     private static void drop() {

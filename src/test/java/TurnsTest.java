@@ -90,6 +90,16 @@ public final class TurnsTest {
         Samples.turnTo(x, 0, "0213");
         CHECK.due("17: all held", x.best(0), 0);
         orderDue("17: all held", x, 0, "2031");
+        LeafOrder chain = chains(3);
+        chain.best(0);
+        chain.turn(0, 4);
+        chain.hold(0, 4, true);
+        CHECK.due("17: held behind a best()", chain.best(0), 0);
+        orderDue("17: what was best is out of reach", chain, 0, "201");
+        chain.turn(0, 3);
+        chain.hold(0, 3, true);
+        chain.best(0);
+        orderDue("17: and more so", chain, 0, "210");
     }
 
     private static void pairRefusals(String promise, LeafOrder x, int[] answers) {
@@ -178,6 +188,29 @@ public final class TurnsTest {
         x.turn(1, 8);
         x.hold(1, 8, true);
         CHECK.due("20: what is held on both sides crosses", x.faceBoth(0, 1), 4);
+        faceBothByTurns();
+    }
+
+    /** ((3 1) (0 2)) and ((1 (2 0)) 3): the first one turns, then the other one's top, then the first one again. */
+    private static void faceBothByTurns() {
+        LeafOrder x = Samples.withRows(new int[][] {{}, {7}, {2, 4}, {5, 3, 5}});
+        x.make(0, 0);
+        Samples.turnTo(x, 0, "3102");
+        int[][] table = {{}, {9}, {0, 0}, {6, 2, 3}};
+        for (int j = 1; j < 4; j++) {
+            for (int i = 0; i < j; i++) {
+                x.lay(j, i, table[j][i]);
+            }
+        }
+        x.make(1, 0);
+        Samples.turnTo(x, 1, "1203");
+        orderDue("20: ahead", x, 0, "3102");
+        orderDue("20: ahead", x, 1, "1203");
+        CHECK.due("20: by turns", x.faceBoth(0, 1), 0);
+        orderDue("20: by turns", x, 0, "3120");
+        orderDue("20: by turns", x, 1, "3120");
+        CHECK.due("20: (1 3) was turned there and back", x.mark(0, 5, 2), 3);
+        CHECK.due("20: crossings then", x.crossings(0, 1), 0);
     }
 
     private static void fewest() {
@@ -200,6 +233,12 @@ public final class TurnsTest {
         x.hold(1, 10, true);
         CHECK.due("21: both tops held", x.fewest(0, 1), 5);
         CHECK.due("21: both ways alike", x.fewest(1, 0), 5);
+        x.hold(0, 10, false);
+        for (int join = 6; join < 11; join++) {
+            x.hold(1, join, true);
+        }
+        CHECK.due("21: all of the other one held", x.fewest(0, 1), 0);
+        CHECK.due("21: all of the first one held", x.fewest(1, 0), 0);
         // ((0 2) (1 3)) and ((0 1) (2 3)): one crossing at the least.
         LeafOrder y = Samples.onLine(0, 10, 1, 11);
         y.make(0, 0);
@@ -226,6 +265,17 @@ public final class TurnsTest {
         Samples.turnTo(x, 0, "0123");
         CHECK.due("22: near", x.near(1), 0);
         orderDue("22: as it was when told", x, 1, "3210");
+        x.leaves(6);
+        x.make(2, 0);
+        CHECK.due("22: keep one of more leaves", x.keep(2), 6);
+        CHECK.due("22: the latest is kept", x.near(1), 0);
+        orderDue("22: the latest", x, 1, "0123");
+        Samples.turnTo(x, 0, "3210");
+        CHECK.due("22: keep one of fewer leaves", x.keep(0), 4);
+        Samples.turnTo(x, 2, "543210");
+        CHECK.due("22: near", x.near(2), 0);
+        orderDue("22: 4 and 5 are not in it any more", x, 2, "543210");
+        x.near(1);
         x.drop(0);
         x.turn(1, 6);
         CHECK.due("22: it outlasts its tree", x.near(1), 0);
@@ -293,6 +343,8 @@ public final class TurnsTest {
         groupsDue("25: 2 | 3 | 0 1", x, 2, 2, 0, 1);
         CHECK.due("25: group(-1)", x.group(-1), LeafOrder.NONE);
         CHECK.due("25: group(4)", x.group(4), LeafOrder.NONE);
+        CHECK.due("25: group(9)", x.group(9), LeafOrder.NONE);
+        CHECK.due("25: group(10)", x.group(10), LeafOrder.NONE);
         CHECK.due("25: group(high)", x.group(HIGH), LeafOrder.NONE);
         x.cut(0, -1);
         x.cut(1, 0);
