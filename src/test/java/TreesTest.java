@@ -28,6 +28,7 @@ public final class TreesTest {
         CHECK.due("9: none came", x.count(2), 0);
         x.leaves(1);
         CHECK.due("9: one leaf", x.make(3, 1), 1);
+        CHECK.due("9: it is the top", x.told(3, 0, 5), LeafOrder.NONE);
         CHECK.due("9: count(2)", x.count(2), 1);
         x.leaves(10);
         CHECK.due("9: ten leaves", x.make(2, 0), 19);

@@ -56,7 +56,6 @@ public final class TurnsTest {
         LeafOrder one = new LeafOrder();
         one.leaves(1);
         one.make(0, 0);
-        one.lay(0, 0, 0);
         CHECK.due("17: one leaf", one.best(0), 0);
         CHECK.due("17: costs nothing", one.asked(), 0);
     }
