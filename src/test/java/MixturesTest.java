@@ -1,6 +1,6 @@
 import java.util.Arrays;
 
-/** Every call with every mixture of numbers at and beyond the bounds, in four states, against the model. */
+/** Every call with all mixtures of chosen numbers at and beyond the bounds, in four states, against the model. */
 public final class MixturesTest {
     private static final Check CHECK = new Check("MixturesTest");
     private static final Furniture.Into[] STATES = {Furniture::none, Furniture::some, Furniture::someKept, Furniture::full};
